@@ -757,10 +757,10 @@ public final class ProphetAudit {
             if (undos > 0) {
                 undos--;
                 int day = undoDay[undos];
-                if (day == A_MARK) {
-                    dropLastMark();
-                } else {
+                if (isDay(day)) {
                     knownEvent[day] = undoEvent[undos];
+                } else {
+                    dropLastMark();
                 }
             }
         }
@@ -984,10 +984,11 @@ public final class ProphetAudit {
 
         final int[] bytes = new int[MOST_TEXT];
         int length;
-        final int[] token = new int[MOST_TEXT];
-        final int[] start = new int[MOST_TEXT];
+        /** The tokens; behind them always an END, which begins where the text ends. */
+        final int[] token = new int[MOST_TEXT + 1];
+        final int[] start = new int[MOST_TEXT + 1];
         /** What a token is that is a number. */
-        final int[] value = new int[MOST_TEXT];
+        final int[] value = new int[MOST_TEXT + 1];
         int tokens;
 
         void append(int c) {
@@ -1000,43 +1001,32 @@ public final class ProphetAudit {
         void split() {
             tokens = 0;
             int at = behindRun(0, ' ', ' ');
-            while (at < length) {
+            for (int n = 0; n < MOST_TEXT && at < length; n++) {
                 at = behindRun(addToken(at), ' ', ' ');
             }
+            put(length, END, 0);
         }
 
-        int tokenAt(int n) {
-            return n >= 0 && n < tokens ? token[n] : END;
-        }
-
-        int startAt(int n) {
-            return n >= 0 && n < tokens ? start[n] : length;
-        }
-
-        int valueAt(int n) {
-            return n >= 0 && n < tokens ? value[n] : 0;
-        }
-
-        /** Adds the token that begins at a place: the place behind it, always a later one. */
+        /** Adds the token that begins at a place: the place behind it. */
         private int addToken(int begin) {
             int c = byteAt(begin);
             if (isLetter(c)) {
                 int end = behindRun(begin, 'a', 'z');
                 put(begin, wordToken(begin, end), 0);
-                return Math.max(end, begin + 1);
+                return end;
             }
             if (isFigure(c)) {
                 int end = behindRun(begin, '0', '9');
-                boolean longer = end - begin > MOST_FIGURES;
-                put(begin, longer ? STRANGE : NUMBER, longer ? 0 : number(begin, end));
-                return Math.max(end, begin + 1);
+                boolean tooLong = end - begin > MOST_FIGURES;
+                put(begin, tooLong ? STRANGE : NUMBER, tooLong ? 0 : number(begin, end));
+                return end;
             }
             put(begin, c == ';' ? STOP : STRANGE, 0);
             return begin + 1;
         }
 
         private void put(int begin, int what, int number) {
-            if (tokens < MOST_TEXT) {
+            if (tokens <= MOST_TEXT) {
                 token[tokens] = what;
                 start[tokens] = begin;
                 value[tokens] = number;
@@ -1119,7 +1109,7 @@ public final class ProphetAudit {
             text.split();
             fault = NONE;
             at = 0;
-            token = text.tokenAt(at);
+            token = text.token[at];
             takeIf(text, token == Text.OFFICE);
             takeStop(text);
             int items = 1;
@@ -1206,7 +1196,7 @@ public final class ProphetAudit {
 
         /** Takes an event that is not among these (bits): these with it. */
         private int takeUnlike(Text text, int events) {
-            int event = text.valueAt(at);
+            int event = text.value[at];
             if (event < EVENTS && (events >> event & 1) == 1) {
                 reject(text);
                 return events;
@@ -1215,7 +1205,7 @@ public final class ProphetAudit {
         }
 
         private int takeNumber(Text text, int limit) {
-            int number = text.valueAt(at);
+            int number = text.value[at];
             if (token != Text.NUMBER || number >= limit) {
                 reject(text);
                 return 0;
@@ -1229,14 +1219,16 @@ public final class ProphetAudit {
         }
 
         private void advance(Text text) {
-            at++;
-            token = text.tokenAt(at);
+            if (at < MOST_TEXT) {
+                at++;
+            }
+            token = text.token[at];
         }
 
         /** The token can not stand here; nothing behind it counts. */
         private void reject(Text text) {
             if (fault == NONE) {
-                fault = text.startAt(at);
+                fault = text.start[at];
             }
             token = Text.STRANGE;
         }
