@@ -7,6 +7,7 @@ public final class StateTest {
         image();
         from();
         fromKeepsWhatMayBeUndone();
+        fromBringsAllBack();
         status();
         count();
         digest();
@@ -96,6 +97,40 @@ public final class StateTest {
         check.same("28: trips", x.of(0, 1), 0);
         x.from(0);
         check.same("28: the image is not undone", x.count(2), 1);
+    }
+
+    private static void fromBringsAllBack() {
+        ProphetAudit x = new ProphetAudit();
+        x.never(3, 0);
+        x.one(2, 4);
+        x.one(5, 6);
+        x.mark(1, 2, 9, 1);
+        x.known(4, 1);
+        x.known(4, 2);
+        x.mark(0, 3, 5, 2);
+        x.image(0);
+        long kept = x.digest();
+        x.office();
+        x.never(0, 3);
+        x.one(0, 0);
+        x.one(1, 1);
+        x.known(1, 3);
+        x.mark(0, 0, 1, 0);
+        x.mark(1, 5, 14, 0);
+        x.known(2, 0);
+        x.known(4, 0);
+        x.from(0);
+        check.same("28: all is back", x.digest(), kept);
+        check.same("28: undo", x.undo(), 1);
+        check.same("28: trips of the inspector of that mark", x.of(0, 1), 4);
+        check.same("28: undo", x.undo(), 1);
+        check.same("28: known as ahead of it", x.known(4, 1), 1);
+        x.undo();
+        check.same("28: undo", x.undo(), 1);
+        check.same("28: none was known", x.count(3), 0);
+        check.same("28: undo", x.undo(), 0);
+        check.same("28: trips of the other", x.of(1, 1), 6);
+        check.same("28: no more", x.undo(), ProphetAudit.NO);
     }
 
     private static void status() {

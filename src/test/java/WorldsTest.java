@@ -236,6 +236,8 @@ public final class WorldsTest {
                 5);
         wrongOf("against a law", "office;one 0 0;never 0 1;mark 0 0 1 0;mark 0 1 1 1;", 1);
         wrongOf("against a known day", "office;one 0 0;mark 0 0 1 0;mark 0 1 1 0;known 1 2;", 2);
+        wrongOf("of the last day", "office;one 0 0;known 5 0;mark 0 5 0 0;", 1);
+        wrongOf("on the last day event 0", "office;one 0 0;known 5 0;mark 0 5 1 0;", 0);
         wrongOf("by none", "office;known 0 0;known 1 0;never 0 0;", NONE);
         String eight = "mark 0 0 2 0;".repeat(8);
         wrongOf("all eight", "office;one 0 0;" + eight, 255);
@@ -259,6 +261,13 @@ public final class WorldsTest {
         isOf("a brown one", "office;one 0 0;known 4 0;mark 0 4 1 1;known 5 0;mark 0 5 1 0;", 2);
         isOf("none", "office;one 0 0;mark 0 0 2 0;mark 0 0 1 0;mark 0 0 0 0;", 0);
         isOf("another's marks", "office;one 0 0;one 0 0;mark 1 0 2 0;", 0);
+        isOf("one world is enough", "office;one 0 0;known 0 0;known 1 0;known 2 0;known 3 0;"
+                + "known 4 0;known 5 0;mark 0 0 1 0;", 23);
+        ProphetAudit fresh = new ProphetAudit();
+        fresh.one(0, 0);
+        fresh.known(0, 0);
+        fresh.mark(0, 0, 1, 0);
+        check.same("21: no text was read", fresh.is(0), 40);
         ProphetAudit x = noneFits();
         long before = x.digest();
         check.same("21: a coy one may have said both", x.is(0), 40);
@@ -298,6 +307,14 @@ public final class WorldsTest {
         x.known(0, 2);
         check.same("23: both on the known one", x.bets(0, NONE), 1);
         check.same("23: 10", x.bets(0, 0), 10);
+        x.known(0, 0);
+        check.same("23: both on event 0", x.bets(0, NONE), 1);
+        check.same("23: 0", x.bets(0, 0), 0);
+        ProphetAudit half = Check.told("office;one 0 0;mark 0 0 1 0 1;known 2 3;never 1 0;never 1 1;");
+        check.same("23: half of it is not less", half.bets(0, NONE), 3);
+        check.same("23: both on it", half.bets(0, 0), 0);
+        check.same("23: one on it", half.bets(0, 1), 1);
+        check.same("23: the other on it", half.bets(0, 2), 4);
         for (int d = 0; d < 6; d++) {
             x.known(d, 2);
         }
