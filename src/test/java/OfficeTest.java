@@ -184,7 +184,8 @@ public final class OfficeTest {
             {"office;never 0", "14"}, {"office;never 0 1", "16"}, {"office;one 0 0;mark 0 0 1 ", "26"},
             {"office;one 0 0;mark 0 0 1 2", "27"},
             {"off", "0"}, {"offices;", "0"}, {"effice;", "0"}, {"offici;", "0"},
-            {"office;lever 0 0;", "7"}, {"office;ane 0 0;", "7"}, {"office;one 0 0;bark 0 0 0 0;", "15"}, {"never 0 0;", "0"}, {" ;", "1"}, {"7", "0"},
+            {"office;lever 0 0;", "7"}, {"office;ane 0 0;", "7"}, {"office;one 0 0;bark 0 0 0 0;", "15"},
+            {"never 0 0;", "0"}, {" ;", "1"}, {"7", "0"},
             {"office office;", "7"}, {"office;office;", "7"}, {"office;one 0 0;office;", "15"},
             {"office;;", "7"}, {"office;3;", "7"}, {"office;ones 0 0;", "7"}, {"office;on e 0 0;", "7"},
             {"office;One 0 0;", "7"}, {"officE;", "0"}, {"officeX;", "6"}, {"office1;", "6"},
@@ -229,6 +230,8 @@ public final class OfficeTest {
         check.same("7: the image stays", x.from(0), 1);
         check.same("7: as kept", x.count(0), 2);
         check.same("7: the text stays", x.read(), 2);
+        check.same("7: office alone", Check.read(x, "office;"), 1);
+        check.same("7: it is empty then", x.count(0), 0);
     }
 
     private static void readFaultChangesNothing() {
