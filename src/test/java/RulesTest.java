@@ -51,8 +51,9 @@ import javax.tools.StandardJavaFileManager;
 import javax.tools.ToolProvider;
 
 /**
- * What the compiler's own tree of the program shows of the rules of LANGUAGE.md. Rule 1 is
- * FaceTest's; that no call throws (7) and that like calls answer alike (13) the runs show.
+ * What the compiler's own tree of the program shows of the rules of LANGUAGE.md, stricter than
+ * they are where the program needs less (NOTES.md). Rule 1 is FaceTest's; that no call throws (7)
+ * is not seen here: that rests on reading and on the runs.
  */
 public final class RulesTest extends TreePathScanner<Void, Void> {
     private static final Check check = new Check();
